@@ -370,7 +370,6 @@ public final class ListForge {
             since = today;
             warning = 0;
             bounceDay = NEVER;
-            moderates = false;
             score = 0;
         }
 

@@ -13,6 +13,7 @@ public final class PostTest {
         loweredFullWaitsForAPost();
         judging();
         judgingDeliversAsOfThen();
+        theFirstAndTheLastAddress();
         wrongJudgements();
         Checks.finish();
     }
@@ -209,6 +210,14 @@ public final class PostTest {
         Checks.same("the post stays", x.count(30), 1);
         x.post(0, 1, 1, 0);
         Checks.same("the next one brings it", Checks.sentFrom(x, from), "5 0 0 1, 3 0 1 2");
+        x.setting(0, 3, 200);
+        x.post(0, 1, 50, 0);
+        x.leave(0, 3);
+        x.setting(0, 3, 50);
+        from = x.count(4);
+        x.post(0, 1, 1, 0);
+        Checks.same("it goes with nobody to send it to", Checks.sentFrom(x, from), "5 0 0 3");
+        Checks.same("and is empty", x.count(30), 0);
     }
 
     private static void judging() {
@@ -260,6 +269,24 @@ public final class PostTest {
         from = x.count(4);
         x.judge(3, 1, 1);
         Checks.same("REJECTED to a BANNED sender", Checks.sentFrom(x, from), "5 0 4 1");
+    }
+
+    private static void theFirstAndTheLastAddress() {
+        ListForge x = new ListForge();
+        Checks.join(x, 2, 0, 0);
+        Checks.join(x, 2, 11, 0);
+        x.moderator(2, 0, true);
+        x.moderator(2, 11, true);
+        x.setting(2, 0, 1);
+        x.setting(2, 1, 1);
+        int from = x.count(4);
+        x.post(2, 5, 1, 0);
+        x.post(2, 5, 1, 0);
+        Checks.same("both are told", Checks.sentFrom(x, from), "0 2 3 0, 11 2 3 0, 0 2 3 1, 11 2 3 1");
+        from = x.count(4);
+        Checks.same("the first judges", x.judge(0, 0, 0), 1);
+        Checks.same("the last judges", x.judge(11, 1, 0), 0);
+        Checks.same("both are sent the posts", Checks.sentFrom(x, from), "0 2 0 0, 11 2 0 0, 0 2 0 1, 11 2 0 1");
     }
 
     private static void wrongJudgements() {
